@@ -124,11 +124,7 @@ public final class LetterDebts {
                 return STATE;
             }
         }
-        if (who.firms >= FIRMS) {
-            return FULL;
-        }
-        who.addFirm(from, to, sum, now.today);
-        return who.firms;
+        return who.addFirm(from, to, sum, now.today);
     }
 
     public int slip(int person, int fortnight, int pay) {
@@ -218,9 +214,6 @@ public final class LetterDebts {
         if (amount <= 0) {
             return STATE;
         }
-        if (now.debts.size >= DEBTS) {
-            return FULL;
-        }
         return now.debts.add(person, amount, now.today);
     }
 
@@ -288,9 +281,6 @@ public final class LetterDebts {
         if (noDebt(debt)) {
             return BAD;
         }
-        if (now.letters.size >= LETTERS) {
-            return FULL;
-        }
         int to = persons[now.debts.person[debt]].known[now.today];
         return now.letters.add(debt, now.today, to);
     }
@@ -311,10 +301,9 @@ public final class LetterDebts {
         if (noPerson(person) || outside(minutes, 1, DAY_MINUTES)) {
             return BAD;
         }
-        if (now.line.size >= LINE) {
+        if (!now.line.add(minutes)) {
             return FULL;
         }
-        now.line.add(minutes);
         return now.line.waitOfLast();
     }
 
@@ -648,14 +637,16 @@ public final class LetterDebts {
             }
         }
 
-        void addFirm(int from, int to, int sum, int day) {
-            if (firms < FIRMS) {
-                firmFrom[firms] = from;
-                firmTo[firms] = to;
-                firmSum[firms] = sum;
-                firmDay[firms] = day;
-                firms++;
+        int addFirm(int from, int to, int sum, int day) {
+            if (firms >= FIRMS) {
+                return FULL;
             }
+            firmFrom[firms] = from;
+            firmTo[firms] = to;
+            firmSum[firms] = sum;
+            firmDay[firms] = day;
+            firms++;
+            return firms;
         }
 
         /** The firm in whose span a fortnight is as of a day, or -1. */
@@ -1139,11 +1130,13 @@ public final class LetterDebts {
         final int[] minutes = new int[LINE];
         int size = 0;
 
-        void add(int asked) {
-            if (size < LINE) {
-                minutes[size] = asked;
-                size++;
+        boolean add(int asked) {
+            if (size >= LINE) {
+                return false;
             }
+            minutes[size] = asked;
+            size++;
+            return true;
         }
 
         int waitOfLast() {

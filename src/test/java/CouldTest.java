@@ -120,6 +120,8 @@ public final class CouldTest {
         x.pay(0, 4, 1, 15);
         check.due("a slip is another, set", x.settles(0, 1, 1), Check.NONE);
         check.due("as of day 0 it could be", x.settles(0, 0, 0), 4);
+        x.pay(0, 4, 1, 16);
+        check.due("a slip is another, the rest are as the sum leaves them", x.settles(0, 1, 0), Check.NONE);
     }
 
     private static void tells() {

@@ -8,6 +8,7 @@ public final class LettersTest {
         letter();
         post();
         lateLetter();
+        lastLetter();
         call();
         day();
         check.end();
@@ -106,7 +107,21 @@ public final class LettersTest {
         x.letter(0);
         check.due("it would come beyond 200", x.post(0, 3), 0);
         check.due("that one too", x.post(1, 3), 0);
+        check.due("a move on the last day", x.place(0, 0, 9), 0);
+        check.due("it lives there", x.place(0, 0, 9), 9);
         check.due("no hold", x.hold(0, 999, 1, 1), 0);
+    }
+
+    private static void lastLetter() {
+        LetterDebts x = withDebts();
+        Check.days(x, 198);
+        x.letter(0);
+        x.letter(1);
+        x.day();
+        x.place(5, 0, 3);
+        x.day();
+        check.due("come on day 200", x.post(0, 3), 1);
+        check.due("gone on day 200", x.post(1, 3), 2);
     }
 
     private static void call() {

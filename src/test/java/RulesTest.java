@@ -108,6 +108,14 @@ public final class RulesTest {
         fault("fromm 0 base", 0);
         fault("From 0 base", 0);
         fault("  form 0 base", 2);
+        fault("froma 0", 0);
+        fault("fromz 0", 0);
+        fault("fromA 0", 0);
+        fault("fromZ 0", 0);
+        fault("from@ 0", 4);
+        fault("from[ 0", 4);
+        fault("from` 0", 4);
+        fault("from{ 0", 4);
         fault("base 0", 0);
         fault("0 from", 0);
         fault(";", 0);
