@@ -46,8 +46,7 @@ public final class LetterDebts {
 
     private final RulesText text = new RulesText();
     private final RuleBook book = new RuleBook();
-    private final Tables tables = new Tables();
-    private final AsOf view = new AsOf(tables);
+    private final AsOf view = new AsOf();
     private final Person[] persons = new Person[PERSONS];
     private final Books now = new Books();
     private final Books[] images = new Books[IMAGES];
@@ -87,7 +86,7 @@ public final class LetterDebts {
             return -10 - fault;
         }
         book.takeOver(text.draft);
-        tables.forget();
+        view.tables.forget();
         text.length = 0;
         return book.size;
     }
@@ -383,14 +382,14 @@ public final class LetterDebts {
     }
 
     private void lookAt(int person, int day) {
-        tables.use(book, book.inForce(day));
+        view.tables.use(book, book.inForce(day));
         view.look(persons[person], day);
     }
 
     /** A look with LEAST and MOST, whose rows are dear where nobody asks for them. */
     private void lookAtBounds(int person, int day) {
         lookAt(person, day);
-        tables.makeDueRows(view.mostLoose());
+        view.tables.makeDueRows(view.mostLoose());
     }
 
     private int howItIs(int letter) {
@@ -778,17 +777,13 @@ public final class LetterDebts {
 
     /** One person as of one day: the spans, and what slips leave of them. */
     private static final class AsOf {
-        final Tables tables;
+        final Tables tables = new Tables();
         final int[] firmOf = new int[FORTNIGHTS];
         final int[] left = new int[FIRMS];
         final int[] loose = new int[FIRMS];
         int looseSet = 0;
         int paid = 0;
         int shownDue = 0;
-
-        AsOf(Tables tables) {
-            this.tables = tables;
-        }
 
         void look(Person who, int day) {
             looseSet = 0;
