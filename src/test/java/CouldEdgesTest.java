@@ -16,6 +16,8 @@ public final class CouldEdgesTest {
         owedAtMost();
         owedByRulesOfTheDay();
         owedInSpansAlone();
+        leastAndMostOfThree();
+        owedWithSlips();
         standsAtItsEdge();
         standsAtNothing();
         settlesNone();
@@ -186,6 +188,57 @@ public final class CouldEdgesTest {
         x.pay(0, 2, 0, 20);
         x.pay(0, 5, 0, 20);
         check.due("told outside doesn't matter", x.owed(0, 0, 2), 9);
+    }
+
+    /** Each row of three pays written down, by rules that round. */
+    private static void leastAndMostOfThree() {
+        String[] rules = {"base 30 free 0 take 1/3", "base 20 free 7 take 2/3", "base 9 free 3 take 20/7", "base 99 free 1 take 5/2"};
+        for (String rule : rules) {
+            for (int sum = 0; sum <= 60; sum++) {
+                LetterDebts x = Check.with("from 0 " + rule + ";");
+                x.firm(0, 4, 6, sum);
+                x.pay(0, 5, 0, 6);
+                int paid = 2 * x.due(0, 0) + x.due(6, 0);
+                int[] due = new int[21];
+                for (int p = 0; p <= 20; p++) {
+                    due[p] = x.due(p, 0);
+                }
+                int least = Integer.MAX_VALUE;
+                int most = 0;
+                for (int a = 0; a <= 20; a++) {
+                    for (int b = 0; b <= 20; b++) {
+                        int c = sum - a - b;
+                        if (c >= 0 && c <= 20) {
+                            int owed = Math.max(0, paid - due[a] - due[b] - due[c]);
+                            least = Math.min(least, owed);
+                            most = Math.max(most, owed);
+                        }
+                    }
+                }
+                check.due("least of " + sum + " by " + rule, x.owed(0, 0, 1), least);
+                check.due("most of " + sum + " by " + rule, x.owed(0, 0, 2), most);
+                check.due("stands with " + sum + " by " + rule, x.stands(0, 0), least == most ? 1 : 0);
+            }
+        }
+    }
+
+    /** OWED is what PAYS are above 10, with one slip after the other. */
+    private static void owedWithSlips() {
+        LetterDebts x = Check.with(ABOVE_TEN);
+        x.firm(0, 0, 2, 36);
+        x.firm(0, 5, 7, 36);
+        int[][] slips = {{0, 13}, {5, 20}, {1, 12}, {6, 16}};
+        // A span of 36: 6 if all have 10 or more, 16 if it is 20 16 0. 13 shown: 6 to 13; 20 shown: 10 to 16.
+        int[][] want = {{12, 32}, {12, 29}, {16, 29}, {16, 22}, {22, 22}};
+        for (int i = 0; i < want.length; i++) {
+            check.due("least with " + i + " slips", x.owed(0, 0, 1), want[i][0]);
+            check.due("most with " + i + " slips", x.owed(0, 0, 2), want[i][1]);
+            check.due("the average pays no heed to slips", x.owed(0, 0, 0), 12);
+            check.due("stands with " + i + " slips", x.stands(0, 0), want[i][0] == want[i][1] ? 1 : 0);
+            if (i < slips.length) {
+                x.slip(0, slips[i][0], slips[i][1]);
+            }
+        }
     }
 
     /** OWED is what PAYS are above 10: 10 and 11 for two may be LEAST 0, MOST 0 or 1. */

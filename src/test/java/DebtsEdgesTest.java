@@ -20,6 +20,8 @@ public final class DebtsEdgesTest {
         setOfOpen();
         setOfHeld();
         setOfBoth();
+        setOfOneCoin();
+        lostOfSeveral();
         everyCoinSomewhere();
         rightAtLimits();
         rightByDays();
@@ -244,6 +246,37 @@ public final class DebtsEdgesTest {
             check.due("collectors keep it", x.count(9), (held + 9) / 10);
             check.due("its amount stays", x.about(0, 1), 60);
         }
+    }
+
+    private static void setOfOneCoin() {
+        LetterDebts x = ripe(1);
+        check.due("its coin", x.hold(0, 999, 1, 1), 1);
+        check.due("collectors have it all", x.about(0, 6), 1);
+        check.due("given back whole", x.set(0), 1);
+        coins(x, 0, 0, 1, 1);
+        check.due("already", x.set(0), Check.STATE);
+        check.due("lost", x.count(10), 1);
+    }
+
+    private static void lostOfSeveral() {
+        LetterDebts x = owing(50);
+        for (int d = 0; d < 4; d++) {
+            x.debt(0, 0);
+            x.letter(d);
+        }
+        Check.days(x, 9);
+        x.hold(0, 161, 1, 1);
+        check.due("collectors had 5 5 5 2", x.count(9), 17);
+        check.due("nothing is lost", x.count(10), 0);
+        check.due("the second", x.set(1), 50);
+        check.due("5 are lost", x.count(10), 5);
+        check.due("the last", x.set(3), 11);
+        check.due("7 are lost", x.count(10), 7);
+        check.due("the first", x.set(0), 50);
+        check.due("12 are lost", x.count(10), 12);
+        check.due("collectors had all of it", x.count(9), 17);
+        check.due("50 are held", x.count(8), 50);
+        check.due("the rest of the third", x.hold(0, 999, 1, 1), 0);
     }
 
     private static void coins(LetterDebts x, int open, int held, int set, int had) {

@@ -12,6 +12,7 @@ public final class ImagesEdgesTest {
         traceOfRefusedCalls();
         keptTwice();
         imagesApart();
+        imagesOfOtherThings();
         imageOfNothing();
         imagesOfFullLines();
         countsAtLimits();
@@ -163,6 +164,59 @@ public final class ImagesEdgesTest {
         check.due("lost", x.count(10), 3);
         check.due("set", x.about(0, 4), 100);
         check.due("set already", x.set(0), Check.STATE);
+    }
+
+    /** What was made since a keep is another debt, letter and call by the same number. */
+    private static void imagesOfOtherThings() {
+        LetterDebts x = owing();
+        x.firm(5, 3, 3, 14);
+        x.keep(0);
+        Check.days(x, 3);
+        x.place(5, 1, 8);
+        x.debt(5, 2);
+        x.letter(0);
+        Check.days(x, 1);
+        x.place(5, 1, 0);
+        x.debt(0, 0);
+        x.letter(0);
+        x.letter(1);
+        Check.days(x, 9);
+        x.hold(5, 5, 1, 1);
+        x.set(1);
+        x.call(0, 60);
+        x.call(0, 20);
+        x.keep(1);
+        x.back(0);
+        x.debt(0, 0);
+        x.letter(0);
+        x.debt(0, 1);
+        x.letter(1);
+        x.letter(0);
+        x.debt(5, 0);
+        Check.days(x, 9);
+        x.hold(0, 130, 1, 1);
+        x.set(0);
+        x.call(0, 10);
+        x.call(0, 11);
+        x.call(0, 12);
+        check.due("back", x.back(1), 13);
+        int[][] abouts = {{5, 14, 9, 5, 0, 3, 1}, {0, 100, 0, 0, 100, 4, 0}};
+        int[][] posts = {{0, 3, 8, 2}, {0, 4, 0, 1}, {1, 4, 0, 1}};
+        for (int d = 0; d < 2; d++) {
+            for (int what = 0; what < 7; what++) {
+                check.due("about " + d + ", " + what, x.about(d, what), abouts[d][what]);
+            }
+        }
+        for (int i = 0; i < 3; i++) {
+            for (int what = 0; what < 4; what++) {
+                check.due("post " + i + ", " + what, x.post(i, what), posts[i][what]);
+            }
+        }
+        check.due("no third debt", x.about(2, 0), Check.BAD);
+        check.due("no fourth letter", x.post(3, 0), Check.BAD);
+        check.due("60", x.day(), 1);
+        check.due("20", x.day(), 1);
+        check.due("nobody", x.day(), 0);
     }
 
     private static void imageOfNothing() {

@@ -19,6 +19,7 @@ public final class PersonsEdgesTest {
         slipsByDays();
         slipsOfTheLastDay();
         spansOfPays();
+        spansOfEachFirm();
         laterFirmsAndSlips();
         check.end();
     }
@@ -245,6 +246,29 @@ public final class PersonsEdgesTest {
                 }
                 check.due("behind " + n, x.span(0, 0, n, 0), n == 10 ? Check.BAD : Check.STATE);
             }
+        }
+    }
+
+    /** Each of three spans by its own sum and slips. */
+    private static void spansOfEachFirm() {
+        LetterDebts x = new LetterDebts();
+        x.firm(0, 6, 7, 25);
+        x.firm(0, 0, 2, 45);
+        x.firm(0, 4, 4, 9);
+        int[][] want = {{0, 5, 20}, {1, 5, 20}, {2, 5, 20}, {4, 9, 9}, {6, 5, 20}, {7, 5, 20}};
+        for (int[] w : want) {
+            check.due("least of " + w[0], x.span(0, 0, w[0], 0), w[1]);
+            check.due("most of " + w[0], x.span(0, 0, w[0], 1), w[2]);
+        }
+        check.due("18 in the second", x.slip(0, 1, 18), 14 * 16);
+        check.due("least of the second", x.span(0, 0, 2, 0), 7);
+        check.due("most of the second", x.span(0, 0, 0, 1), 20);
+        check.due("6 in the second", x.slip(0, 0, 6), Check.STATE);
+        check.due("7 in the second", x.slip(0, 0, 7), 16);
+        check.due("least of the first still", x.span(0, 0, 7, 0), 5);
+        for (int f : new int[] {3, 5, 8, 9}) {
+            check.due("in no span: " + f, x.span(0, 0, f, 0), Check.STATE);
+            check.due("no slip: " + f, x.slip(0, f, 5), Check.STATE);
         }
     }
 

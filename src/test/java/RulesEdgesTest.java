@@ -18,6 +18,8 @@ public final class RulesEdgesTest {
         blanks();
         words();
         everyBeginning();
+        endsAtTheLastByte();
+        bytesThatWereCleared();
         refusedRules();
         emptyRules();
         longestRules();
@@ -280,6 +282,37 @@ public final class RulesEdgesTest {
         }
         fault("from 10 base 20 free 5 take 2/13   ", 35);
         fault("from 1 base 2 free 0 take 1/1; from 2 base 3 free", 49);
+    }
+
+    /** A token that the 300th byte ends. */
+    private static void endsAtTheLastByte() {
+        fault("z".repeat(300), 0);
+        fault(" ".repeat(296) + "from", 300);
+        fault(" ".repeat(295) + "from ", 300);
+        fault(" ".repeat(297) + "fro", 297);
+        fault(" ".repeat(299) + "7", 299);
+        fault(" ".repeat(295) + "from7", 300);
+        fault(" ".repeat(271) + "from 0 base 9 free 0 take 1/1", 300);
+        taken(" ".repeat(270) + "from 0 base 9 free 0 take 1/1;", 1);
+    }
+
+    /** Bytes that were cleared, or became rules, are no part of a shorter text. */
+    private static void bytesThatWereCleared() {
+        LetterDebts x = new LetterDebts();
+        Check.typed(x, "fromage");
+        x.clear();
+        Check.typed(x, "from");
+        check.due("a word", x.rules(), -14);
+        x.clear();
+        Check.typed(x, "from 2999");
+        x.clear();
+        Check.typed(x, "from 2");
+        check.due("a number", x.rules(), -16);
+        x.clear();
+        Check.typed(x, Scenes.rules(3));
+        check.due("three rules", x.rules(), 3);
+        check.due("a blank, then nothing of them", x.type(32, 1), 1);
+        check.due("no rules", x.rules(), 0);
     }
 
     /** A fault changes neither THE TEXT nor THE RULES; taking them empties the text and replaces all. */
