@@ -15,6 +15,7 @@ public final class CouldEdgesTest {
         owedDownToNothing();
         owedAtMost();
         owedByRulesOfTheDay();
+        owedByNoRuleAtOnce();
         owedInSpansAlone();
         leastAndMostOfThree();
         owedWithSlips();
@@ -173,6 +174,25 @@ public final class CouldEdgesTest {
         check.due("none of them yet", x.owed(0, 3, 1), 0);
         Check.ruled(x, "");
         check.due("by no rules", x.owed(0, 200, 2), 0);
+    }
+
+    /** Rules that are gone count for nothing, even if the next question is of a day that no rule has. */
+    private static void owedByNoRuleAtOnce() {
+        String[] others = {"", "from 9 base 50 free 0 take 2/1;", "from 1 base 50 free 0 take 2/1; from 9 base 9 free 0 take 1/1;"};
+        for (String other : others) {
+            for (int what = 0; what < 4; what++) {
+                LetterDebts x = Check.with("from 0 base 10 free 0 take 1/1;");
+                x.firm(0, 0, 0, 8);
+                x.pay(0, 0, 1, 8);
+                check.due("by the rule", x.owed(0, 0, what), 8);
+                Check.ruled(x, other);
+                check.due("by none of '" + other + "'", x.owed(0, 0, what), 0);
+                check.due("weight by none", x.weight(4, 0, 0), 1);
+                check.due("no debt by none", x.debt(0, 2), Check.STATE);
+                Check.ruled(x, "from 0 base 30 free 0 take 3/1;");
+                check.due("by another rule", x.owed(0, 0, what), 24);
+            }
+        }
     }
 
     private static void owedInSpansAlone() {
