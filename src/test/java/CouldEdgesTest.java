@@ -16,11 +16,13 @@ public final class CouldEdgesTest {
         owedAtMost();
         owedByRulesOfTheDay();
         owedByNoRuleAtOnce();
+        owedByOtherRulesAtOnce();
         owedInSpansAlone();
         leastAndMostOfThree();
         owedWithSlips();
         standsAtItsEdge();
         standsAtNothing();
+        oneAlways();
         settlesNone();
         settlesNothing();
         settlesFewest();
@@ -195,6 +197,35 @@ public final class CouldEdgesTest {
         }
     }
 
+    /** Rules in the place of those that are gone count at once, for each question, with as many rules or others. */
+    private static void owedByOtherRulesAtOnce() {
+        String first = "from 0 base 10 free 0 take 1/1; from 3 base 20 free 0 take 2/1;";
+        String other = "from 0 base 40 free 4 take 3/1; from 3 base 40 free 6 take 4/1;";
+        int[][] days = {{2, 8, 12}, {3, 16, 8}};
+        for (int[] d : days) {
+            for (int what = 0; what < 4; what++) {
+                LetterDebts x = Check.with(first);
+                x.firm(0, 0, 0, 8);
+                x.pay(0, 0, 1, 8);
+                check.due("by the first rules", x.owed(0, d[0], what), d[1]);
+                Check.ruled(x, other);
+                check.due("by the others, " + what, x.owed(0, d[0], what), d[2]);
+                Check.ruled(x, first);
+                check.due("by the first again, " + what, x.owed(0, d[0], what), d[1]);
+            }
+            LetterDebts x = Check.with(first);
+            x.firm(0, 0, 0, 8);
+            Check.days(x, d[0]);
+            check.due("weight by the first", x.weight(4, 0, 0), 1 + d[1]);
+            Check.ruled(x, other);
+            check.due("weight by the others", x.weight(4, 0, 0), 1 + d[2]);
+            check.due("a debt by the others", x.about(x.debt(0, 1), 1), d[2]);
+            Check.ruled(x, first);
+            check.due("a debt by the first again", x.about(x.debt(0, 2), 1), d[1]);
+            check.due("that of the others", x.right(0, d[0]), d[2] > d[1] ? 2 : 0);
+        }
+    }
+
     private static void owedInSpansAlone() {
         LetterDebts x = Check.with("from 0 base 40 free 0 take 1/1;");
         x.firm(0, 3, 4, 9);
@@ -291,6 +322,38 @@ public final class CouldEdgesTest {
         check.due("no spans, the last day", x.stands(1, 200), 1);
     }
 
+    /** Slips of any pay on any day, those ahead of days that were there already too: some row COULD BE as of every day. */
+    private static void oneAlways() {
+        for (int start = 0; start <= 20; start++) {
+            LetterDebts x = Check.with(ABOVE_TEN);
+            x.firm(0, 0, 2, 31);
+            x.keep(0);
+            Check.days(x, 6);
+            x.firm(0, 5, 6, 9);
+            x.keep(1);
+            int[] fortnights = {2, 5, 0, 6, 1};
+            for (int f : fortnights) {
+                x.back(f % 2);
+                firstThatIsTaken(x, f, start);
+                for (int day : new int[] {0, 5, 6, 200}) {
+                    check.holds("some row as of " + day + " with a slip of " + f, x.could(0, day) >= 1);
+                    check.holds("least and most as of " + day, x.owed(0, day, 1) <= x.owed(0, day, 2));
+                    check.holds("pays as of " + day, x.span(0, day, 1, 0) <= x.span(0, day, 1, 1));
+                }
+            }
+            check.due("all five are shown, from " + start, x.count(2), 5);
+            check.due("one row as of the last day", x.could(0, 200), 1);
+        }
+    }
+
+    private static void firstThatIsTaken(LetterDebts x, int fortnight, int start) {
+        int answer = Check.STATE;
+        for (int i = 0; i <= 20 && answer == Check.STATE; i++) {
+            answer = x.slip(0, fortnight, (start + i) % 21);
+        }
+        check.holds("some slip of " + fortnight + " is taken", answer >= 0);
+    }
+
     /** TRUE PAYS that miss the sum by one step, or a slip by one, COULD not BE. */
     private static void settlesNone() {
         LetterDebts x = Check.with(ABOVE_TEN);
@@ -316,6 +379,12 @@ public final class CouldEdgesTest {
         x.pay(0, 0, 1, 16);
         x.pay(0, 1, 1, 4);
         check.due("one more than the slip", x.settles(0, 0, 1), Check.NONE);
+        x.pay(0, 1, 1, 5);
+        check.due("one more, the other as the sum leaves it", x.settles(0, 0, 1), Check.NONE);
+        x.pay(0, 0, 1, 14);
+        check.due("one less, the other as the sum leaves it", x.settles(0, 0, 0), Check.NONE);
+        x.pay(0, 0, 1, 15);
+        check.due("as the slip says again", x.settles(0, 0, 0), 0);
         LetterDebts two = Check.with(ABOVE_TEN);
         two.firm(0, 0, 0, 5);
         two.firm(0, 1, 1, 6);

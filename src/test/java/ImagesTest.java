@@ -6,6 +6,7 @@ public final class ImagesTest {
         bad();
         keptAndBack();
         notKept();
+        notKeptOfLaterDays();
         count();
         check.end();
     }
@@ -79,6 +80,7 @@ public final class ImagesTest {
         x.firm(1, 0, 0, 2);
         x.slip(1, 0, 2);
         x.place(0, 0, 9);
+        x.place(0, 1, 8);
         x.weight(0, 0, 0);
         x.back(0);
         check.due("rules", x.count(0), 2);
@@ -88,7 +90,35 @@ public final class ImagesTest {
         check.due("told", x.pay(0, 0, 0, 0), 3);
         check.due("truth", x.pay(0, 0, 1, 0), 4);
         check.due("lives", x.place(0, 0, 0), 9);
+        check.due("known", x.place(0, 1, 0), 8);
+        check.due("the new rule", x.due(0, 200), 8);
+        check.due("the new span", x.span(1, 9, 0, 1), 2);
         check.due("trace", x.trace(), 1);
+    }
+
+    /** Told on a later day than the one that an image brings back, all that is in no image stands nevertheless. */
+    private static void notKeptOfLaterDays() {
+        LetterDebts x = busy();
+        x.keep(0);
+        x.day();
+        x.firm(1, 0, 1, 5);
+        x.slip(1, 0, 2);
+        x.pay(1, 0, 0, 3);
+        x.pay(1, 0, 1, 4);
+        x.place(1, 0, 9);
+        x.place(1, 1, 8);
+        check.due("back", x.back(0), 9);
+        check.due("firms", x.count(1), 2);
+        check.due("slips", x.count(2), 1);
+        check.due("told", x.pay(1, 0, 0, 3), 3);
+        check.due("truth", x.pay(1, 0, 1, 4), 4);
+        check.due("its span as of the later day", x.span(1, 10, 1, 1), 3);
+        check.due("its slip as of the later day", x.span(1, 10, 0, 1), 2);
+        check.due("no span as of TODAY", x.span(1, 9, 0, 1), Check.STATE);
+        check.due("no other span there", x.firm(1, 1, 2, 5), Check.STATE);
+        x.day();
+        check.due("lives on the later day", x.place(1, 0, 0), 9);
+        check.due("known on the later day", x.place(1, 1, 0), 8);
     }
 
     private static void count() {

@@ -12,6 +12,8 @@ public final class LettersEdgesTest {
         movesOnTheDayItself();
         neverThere();
         whatTheOfficeKnew();
+        knownInNoImage();
+        livedInNoImage();
         lastDays();
         oneLetterOfSeveral();
         fortyCalls();
@@ -167,6 +169,45 @@ public final class LettersEdgesTest {
             check.due("place of letter " + i, x.post(i, 2), want[i]);
             check.due("day of letter " + i, x.post(i, 1), i / 2);
         }
+    }
+
+    /** What the OFFICE knows is told by days: an image brings TODAY back, not what was told for later days. */
+    private static void knownInNoImage() {
+        LetterDebts x = withDebts();
+        x.keep(0);
+        Check.days(x, 5);
+        x.place(0, 1, 8);
+        x.letter(0);
+        x.back(0);
+        check.due("sent on day 0", x.letter(0), 0);
+        check.due("to what was known then", x.post(0, 2), 0);
+        Check.days(x, 4);
+        x.letter(0);
+        check.due("to what was known on day 4", x.post(1, 2), 0);
+        x.day();
+        x.letter(0);
+        check.due("to what it was told for day 5", x.post(2, 2), 8);
+    }
+
+    /** Where a PERSON LIVED on a day stays, whatever image is brought back. */
+    private static void livedInNoImage() {
+        LetterDebts x = withDebts();
+        x.letter(0);
+        x.day();
+        x.keep(1);
+        x.day();
+        x.place(0, 0, 7);
+        check.due("gone on day 2", x.post(0, 3), 2);
+        x.back(1);
+        check.due("on its way on day 1", x.post(0, 3), 0);
+        x.day();
+        check.due("gone on day 2 again", x.post(0, 3), 2);
+        x.back(1);
+        check.due("it lives there on day 1", x.place(0, 0, 0), 0);
+        x.day();
+        check.due("from day 1 on it stays there", x.post(0, 3), 1);
+        Check.days(x, 7);
+        check.due("and may be held on day 9", x.hold(0, 5, 1, 1), 5);
     }
 
     /** Sent on day 198 it comes on the last day; later ones stay on their way. */
