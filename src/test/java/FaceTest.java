@@ -6,7 +6,9 @@ import java.nio.file.Files;
 import java.nio.file.Path;
 import java.util.ArrayList;
 import java.util.List;
+import java.util.Map;
 import java.util.Set;
+import java.util.TreeMap;
 import java.util.TreeSet;
 import java.util.regex.Matcher;
 import java.util.regex.Pattern;
@@ -27,7 +29,10 @@ public final class FaceTest {
 
     public static void main(String[] args) throws Exception {
         face();
-        source(Files.readString(Path.of("src/main/java/LetterDebts.java")));
+        fields();
+        String source = Files.readString(Path.of("src/main/java/LetterDebts.java"));
+        source(source);
+        calls(code(source));
         check.end();
     }
 
@@ -80,14 +85,79 @@ public final class FaceTest {
         check.due("NONE", LetterDebts.NONE, -9);
     }
 
-    private static void source(String source) {
+    /** The types that rule 3 leaves, as far as the class needs them; static fields are constants (rule 5). */
+    private static void fields() {
+        List<Class<?>> classes = new ArrayList<>(List.of(LetterDebts.class.getDeclaredClasses()));
+        classes.add(LetterDebts.class);
+        for (Class<?> c : classes) {
+            int own = 0;
+            for (Field f : c.getDeclaredFields()) {
+                Class<?> part = f.getType();
+                int dimensions = 0;
+                while (part.isArray()) {
+                    part = part.getComponentType();
+                    dimensions++;
+                }
+                boolean number = part.isPrimitive();
+                boolean mine = classes.contains(part);
+                check.holds(f + " has a type that may be", number && dimensions <= 2 || mine && dimensions <= 1);
+                if (Modifier.isStatic(f.getModifiers())) {
+                    check.holds(f + " is a constant", Modifier.isFinal(f.getModifiers()) && number && dimensions <= 1);
+                } else {
+                    own++;
+                }
+            }
+            check.holds(c + " has some twenty fields at most: " + own, own <= 20);
+        }
+    }
+
+    /** Calls go at most eight deep, a method that calls itself counted by its three KINDS (rules 8 and 11). */
+    private static void calls(String code) {
+        Map<String, Set<String>> called = new TreeMap<>();
+        Matcher m = Pattern.compile("\\n( +)[A-Za-z][A-Za-z\\[\\] ]* (\\w+)\\([^()]*\\) \\{\\n(.*?)\\n\\1\\}", Pattern.DOTALL).matcher(code);
+        while (m.find()) {
+            Matcher in = Pattern.compile("\\b(\\w+)\\(").matcher(m.group(3));
+            Set<String> names = called.computeIfAbsent(m.group(2), k -> new TreeSet<>());
+            while (in.find()) {
+                names.add(in.group(1));
+            }
+        }
+        for (String name : called.keySet()) {
+            int deep = deep(name, called, new ArrayList<>());
+            check.holds(name + " goes " + deep + " deep", deep <= 8);
+        }
+        check.holds("calls were seen", called.get("slip").contains("lookAt"));
+        check.holds("weigh alone calls itself, and takeOver of parts", called.entrySet().stream()
+            .filter(e -> e.getValue().contains(e.getKey())).map(Map.Entry::getKey).toList().equals(List.of("takeOver", "weigh")));
+    }
+
+    private static int deep(String name, Map<String, Set<String>> called, List<String> open) {
+        int more = 0;
+        for (String next : called.get(name)) {
+            if (called.containsKey(next) && !next.equals(name)) {
+                check.holds(next + " is not open already: " + open, !open.contains(next));
+                List<String> now = new ArrayList<>(open);
+                now.add(next);
+                more = Math.max(more, open.contains(next) ? 0 : deep(next, called, now));
+            }
+        }
+        return 1 + more + (name.equals("weigh") ? 2 : name.equals("takeOver") ? 1 : 0);
+    }
+
+    /** The source without comments and without what stands in texts. */
+    private static String code(String source) {
         String code = Pattern.compile("/\\*.*?\\*/", Pattern.DOTALL).matcher(source).replaceAll("");
-        code = code.replaceAll("//[^\n]*", "").replaceAll("\"[^\"\n]*\"", "\"\"");
+        return code.replaceAll("//[^\n]*", "").replaceAll("\"[^\"\n]*\"", "\"\"");
+    }
+
+    private static void source(String source) {
+        String code = code(source);
         for (String word : FORBIDDEN) {
             boolean letters = Character.isLetter(word.charAt(0));
             Pattern p = Pattern.compile(letters ? "\\b" + Pattern.quote(word) + "\\b" : Pattern.quote(word));
             check.holds("no " + word, !p.matcher(code).find());
         }
+        check.holds("no static block", !Pattern.compile("static\\s*\\{").matcher(code).find());
         check.holds("bytes 1 to 127 alone", source.chars().allMatch(c -> c < 128));
         Matcher m = Pattern.compile("\\n( +)[A-Za-z][A-Za-z\\[\\] ]*\\(([^()]*)\\) \\{\\n.*?\\n\\1\\}", Pattern.DOTALL).matcher(code);
         int methods = 0;
